@@ -23,11 +23,12 @@ public final class PhaseCells {
     private static final int[] BESIDE_X = {0, 1, 0, -1};
     private static final int[] BESIDE_Y = {-1, 0, 1, 0};
 
-    private final State now = new State();
+    private final Sight sight = new Sight();
+    private final State now = sight.state;
+    /** What was before the call that runs; scratch between calls. */
     private final State before = new State();
     private final State[] states = new State[MOST_STATES];
     private int stateCount = 0;
-    private final Sight sight = new Sight(now);
     private final OrderText text = new OrderText();
     private int refusedBad = 0;
     private int refusedNo = 0;
@@ -441,7 +442,7 @@ public final class PhaseCells {
             for (int k = 0; k < RATES; k++) {
                 layEchoOfRate(cell * PER_CELL + k * PER_RATE, d, s, waves[k]);
             }
-            return countFull(cell);
+            return countFrom(cell, MOST_SAMPLE);
         }
 
         private void layEchoOfRate(int at, int d, int s, int wave) {
@@ -483,17 +484,16 @@ public final class PhaseCells {
             for (int i = 0; i < PER_CELL; i++) {
                 brighten(cell * PER_CELL + i, v);
             }
-            return countFull(cell);
-        }
-
-        private int countFull(int cell) {
             return countFrom(cell, MOST_SAMPLE);
         }
 
         /** How many samples of a cell are least or more. */
         int countFrom(int cell, int least) {
+            if (!isCell(cell)) {
+                return 0;
+            }
             int count = 0;
-            for (int i = 0; isCell(cell) && i < PER_CELL; i++) {
+            for (int i = 0; i < PER_CELL; i++) {
                 count += samples[cell * PER_CELL + i] >= least ? 1 : 0;
             }
             return count;
@@ -587,11 +587,11 @@ public final class PhaseCells {
         }
     }
 
-    /** Marks and distances of the cells of a state, each reckoned when first asked for. */
+    /** A state with the marks and distances of its cells, each reckoned when first asked for. */
     private static final class Sight {
         private static final int NOT_YET = -1, NO_RATE = -1;
 
-        private final State state;
+        final State state = new State();
         private final int[] known = new int[CELLS];
         /** Distance of a measured cell, near of a mixed one. */
         private final int[] nearer = new int[CELLS];
@@ -601,8 +601,7 @@ public final class PhaseCells {
         private int lastFit;
         private int best;
 
-        Sight(State state) {
-            this.state = state;
+        Sight() {
             Arrays.fill(known, NOT_YET);
         }
 
@@ -669,9 +668,14 @@ public final class PhaseCells {
             return near == NONE ? UNKNOWN : MIXED;
         }
 
-        /** Finds the first, the last and the best distance that fits all rates but one. */
+        /**
+         * Finds the first, the last and the best distance that fits all rates but one. It ends early where
+         * the rest tells nothing new: of all three rates, when fits lie too wide apart for any best between
+         * them; of two, whose first and last nobody asks for, when no misfit can be less.
+         */
         private boolean search(int without) {
             firstFit = NONE;
+            int widest = 4 * state.settings[NOISE];
             int leastMisfit = Integer.MAX_VALUE;
             for (int d = 0; d <= state.settings[FAR]; d++) {
                 int gap = widestGap(d, without);
@@ -686,6 +690,9 @@ public final class PhaseCells {
                 }
                 firstFit = firstFit == NONE ? d : firstFit;
                 lastFit = d;
+                if (without == NO_RATE ? lastFit - firstFit > widest : leastMisfit == 0) {
+                    break;
+                }
             }
             return firstFit != NONE;
         }

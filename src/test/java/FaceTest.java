@@ -124,7 +124,7 @@ public final class FaceTest {
         int inCalls = 0;
         for (String line : code.split("\n")) {
             if (line.contains("new ") && !line.trim().startsWith("private final")
-                    && !line.trim().startsWith("final int[]")) {
+                    && !line.trim().startsWith("final ")) {
                 inCalls++;
             }
         }

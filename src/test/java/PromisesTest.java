@@ -229,9 +229,14 @@ public final class PromisesTest {
         due("no more than 4095", c.raw(0, 0, 1, 1, 2), 4095);
         due("shines elsewhere not", c.raw(0, 1, 0, 0, 0), 0);
         due("shines leaves states", c.refused(4), 4);
+        c.grid(4, 4);
+        due("the last cell", c.shines(1, 3, 3, 9), 0);
+        due("the last sample", c.raw(1, 3, 3, 2, 3), 9);
+        due("the last cell has a mark", c.mark(1, 3, 3), 2);
+        due("the last cell cleared", c.clears(1, 3, 3), 12);
         refusesBad(c, "shines", 0, 0, 0, 0);
         refusesBad(c, "shines", 0, 0, 0, 4096);
-        refusesBad(c, "shines", 0, 0, 3, 1);
+        refusesBad(c, "shines", 0, 0, 4, 1);
         refusesBad(c, "shines", -1, 0, 0, 1);
     }
 
@@ -239,6 +244,7 @@ public final class PromisesTest {
         PhaseCells c = new PhaseCells();
         c.shines(1, 2, 1, 5);
         c.sample(1, 2, 1, 0, 0, 0);
+        c.sample(1, 2, 1, 0, 1, 1);
         c.shines(1, 1, 2, 5);
         due("clears", c.clears(1, 2, 1), 11);
         due("clears again", c.clears(1, 2, 1), 0);
@@ -344,6 +350,8 @@ public final class PromisesTest {
         due("away below", c.away(0, 0, 0, 0, 0), 40);
         due("away of a wave more", c.away(0, 0, 0, 0, 140), 1);
         due("away of 9999", c.away(0, 0, 0, 0, 9999), 40);
+        due("away of rate 1", c.away(0, 0, 0, 1, 0), 40);
+        due("away of rate 2", c.away(0, 0, 0, 2, 0), 40);
         c.wave(0, 100);
         due("away of half", c.away(0, 0, 0, 0, 90), 50);
         due("S is 0", c.away(0, 1, 0, 0, 0), NO);
@@ -556,6 +564,28 @@ public final class PromisesTest {
         due("nor from the other exposure", c.cell(0, 1, 1, 3), NONE);
         due("filled itself", c.cell(0, 1, 0, 3), 777);
         due("filled ones fill none", c.cell(0, 2, 0, 3), NONE);
+        filledInOrder(3819, 3818, 538, 739, 928, 987);
+        filledInOrder(3454, 3454, 661, 726, 887, 705);
+        PhaseCells least = new PhaseCells();
+        least.sets(4, 1);
+        least.sets(1, 3);
+        least.echo(0, 0, 0, 0, 6);
+        lay(least, 0, 1, 0, 5, 0, 0, 0);
+        due("EDGE 1, 1.5 less", least.cell(0, 1, 0, 3), 0);
+        lay(least, 0, 1, 0, 3, 0, 0, 0);
+        due("EDGE 1, 4.5 less", least.cell(0, 1, 0, 3), NONE);
+    }
+
+    /** Floats added up in another order than above, right, below, left would come to one more or less. */
+    private static void filledInOrder(int d, int want, int... strengths) {
+        PhaseCells c = new PhaseCells();
+        c.sets(4, 400);
+        int[] x = {1, 2, 1, 0}, y = {0, 1, 2, 1};
+        for (int i = 0; i < 4; i++) {
+            c.echo(0, x[i], y[i], d, strengths[i]);
+            due("beside it", c.cell(0, x[i], y[i], 0), d);
+        }
+        due("filled in order", c.cell(0, 1, 1, 3), want);
     }
 
     private static void promise16Glow() {
@@ -581,6 +611,9 @@ public final class PromisesTest {
         c.echo(1, 1, 3, 1400, 300);
         due("motion", c.motion(1, 3), -100);
         due("NO counts", c.refused(1), 2);
+        c.echo(0, 0, 0, 1500, 900);
+        c.echo(1, 0, 0, 1503, 900);
+        due("motion of the first cell", c.motion(0, 0), 3);
         c.clears(0, 1, 3);
         due("motion of the other dark", c.motion(1, 3), NO);
         refusesBad(c, "motion", 2, 0);
@@ -704,6 +737,8 @@ public final class PromisesTest {
         due("the text stays", c.refused(3), 56);
         due("done again", c.does(), 7);
         due("two states", c.refused(4), 2);
+        due("e at a distance", does(c, "c1 3 1;e1 3 1 2345 800;"), 2);
+        due("its distance", c.cell(1, 3, 1, 0), 2345);
         due("c", does(c, "c0 2 1;"), 1);
         due("c cleared", c.raw(0, 2, 1, 1, 3), 0);
         due("blanks everywhere", does(c, "  g  1   1  ;  v 0   10 ;  "), 2);
@@ -807,6 +842,23 @@ public final class PromisesTest {
         due("the grid comes back", c.told(0) * 10 + c.told(1), 33);
         due("with its samples", c.raw(0, 1, 1, 0, 0), 2);
         backKeepsNothingOld();
+        backOfEachCall();
+    }
+
+    private static void backOfEachCall() {
+        String[] names = {"grid", "wave", "sets", "sample", "echo", "shines", "clears"};
+        int[][] numbers = {{2, 2}, {1, 77}, {3, 777}, {0, 1, 1, 1, 1, 1}, {0, 1, 1, 1, 1}, {0, 1, 1, 1}, {0, 1, 1}};
+        for (int i = 0; i < names.length; i++) {
+            PhaseCells c = new PhaseCells();
+            c.shines(0, 1, 1, 9);
+            c.wave(2, 1000);
+            long digest = c.digest();
+            Face.call(c, names[i], numbers[i]);
+            due("a state by " + names[i], c.refused(4), 3);
+            due("a change by " + names[i], c.digest() == digest ? 1 : 0, 0);
+            due("back of " + names[i], c.back(), 2);
+            due("all as before " + names[i], c.digest(), digest);
+        }
     }
 
     /** What was reckoned before a change must not be told after going back over it. */
@@ -880,5 +932,39 @@ public final class PromisesTest {
         h = 31 * h;
         due("digest", c.digest(), h);
         due("digest again", c.digest(), h);
+        digestOfMixed();
+    }
+
+    /** A mixed cell tells near, beyond and filled; beside it is a measured one that fills it. */
+    private static void digestOfMixed() {
+        PhaseCells c = new PhaseCells();
+        c.grid(1, 2);
+        c.sets(0, 0);
+        c.sets(4, 500);
+        for (int k = 0; k < 3; k++) {
+            c.wave(k, new int[] {11, 20, 30}[k]);
+            layResidue(c, k, new int[] {3, 4, 15}[k], new int[] {11, 20, 30}[k]);
+        }
+        c.echo(0, 0, 1, 100, 1000);
+        c.sets(3, 200);
+        long h = 1689;
+        for (int what = 0; what < 5; what++) {
+            h = 31 * h + c.refused(what);
+        }
+        for (int what = 0; what < 11; what++) {
+            h = 31 * h + c.told(what);
+        }
+        long[] tails = {4, 124, 135, 100, 0, 100, 2, NONE, 2, NONE};
+        int[] first = {0, 4, 6, 8, 10};
+        for (int cell = 0; cell < 4; cell++) {
+            for (int i = 0; i < 12; i++) {
+                h = 31 * h + c.raw(cell / 2, 0, cell % 2, i / 4, i % 4);
+            }
+            for (int i = first[cell]; i < first[cell + 1]; i++) {
+                h = 31 * h + tails[i];
+            }
+        }
+        h = 31 * h + Double.doubleToLongBits(100.0);
+        due("digest of a mixed one", c.digest(), 31 * h);
     }
 }
