@@ -1,8 +1,5 @@
 /** Each promise of the document by calls whose answers were worked out by hand from its words. */
-public final class PromisesTest {
-    private static final int NONE = -10001, BAD = -10002, NO = -10003, FULL = -10004;
-    private static int wrong = 0;
-
+public final class PromisesTest extends Checks {
     private PromisesTest() {
     }
 
@@ -37,47 +34,7 @@ public final class PromisesTest {
         promise25Back();
         promise26Refused();
         promise27Digest();
-        System.out.println(wrong == 0 ? "all promises are kept" : wrong + " answers are not as due");
-        if (wrong != 0) {
-            System.exit(1);
-        }
-    }
-
-    private static void due(String what, long got, long want) {
-        if (got != want) {
-            wrong++;
-            System.out.println(what + " answered " + got + ", due is " + want);
-        }
-    }
-
-    private static void refusesBad(PhaseCells c, String name, int... n) {
-        int before = c.refused(0), states = c.refused(4);
-        due(name + " of wrong numbers " + java.util.Arrays.toString(n), Face.call(c, name, n), BAD);
-        due(name + " counted as refused", c.refused(0), before + 1);
-        due(name + " refused left no state", c.refused(4), states);
-    }
-
-    private static int types(PhaseCells c, String text) {
-        int length = c.refused(3);
-        for (int i = 0; i < text.length(); i++) {
-            length = c.type(text.charAt(i));
-        }
-        return length;
-    }
-
-    private static int does(PhaseCells c, String text) {
-        c.clear();
-        types(c, text);
-        return c.does();
-    }
-
-    /** All rates of a cell get the same four samples. */
-    private static void lay(PhaseCells c, int e, int x, int y, int... four) {
-        for (int k = 0; k < 3; k++) {
-            for (int i = 0; i < 4; i++) {
-                c.sample(e, x, y, k, i, four[i]);
-            }
-        }
+        ends("all promises are kept");
     }
 
     private static void promise1NewObject() {
@@ -487,20 +444,6 @@ public final class PromisesTest {
         // 3 by 11 and 4 by 20: 124; 3 by 11 and 15 by 30: 135; 4 by 20 and 15 by 30: none
         due("near of two", c.cell(0, 0, 0, 1), 124);
         due("beyond of two", c.cell(0, 0, 0, 2), 135);
-    }
-
-    /** A phase of residue * 4 / wave, laid in the samples of one rate; S is near 2000. */
-    private static void layResidue(PhaseCells c, int k, int residue, int wave) {
-        for (int i = 0; i < 4; i++) {
-            c.sample(0, 0, 0, k, i, 0);
-        }
-        int fours = 4 * residue;
-        int quarter = fours / wave;
-        int part = fours % wave;
-        int[] x = {wave - part, -part, part - wave, part};
-        int[] y = {part, wave - part, -part, part - wave};
-        c.sample(0, 0, 0, k, x[quarter] > 0 ? 0 : 2, 2000 / wave * Math.abs(x[quarter]));
-        c.sample(0, 0, 0, k, y[quarter] > 0 ? 1 : 3, 2000 / wave * Math.abs(y[quarter]));
     }
 
     /** The misfit is a sum of squares: residues 50, 50, 56 of nearly like waves are best fitted by 52. */
