@@ -1,4 +1,5 @@
 import java.util.Arrays;
+import java.util.Set;
 
 /**
  * Every number of every call, in grids of several sizes: the least and the greatest are taken, one less, one
@@ -7,7 +8,7 @@ import java.util.Arrays;
 public final class RangesTest extends Checks {
     private static final int[][] GRIDS = {{1, 1}, {4, 4}, {3, 3}, {4, 1}, {1, 4}, {2, 3}};
     private static final int[][] SETTINGS = {{0, 50}, {0, 2000}, {1, 4095}, {100, 9999}, {1, 500}, {0, 500}};
-    private static final String TELLS_STATES = "grid wave sets sample echo shines clears";
+    private static final Set<String> TOLD_S = Set.of("grid", "wave", "sets", "sample", "echo", "shines", "clears");
 
     private RangesTest() {
     }
@@ -116,7 +117,7 @@ public final class RangesTest extends Checks {
         PhaseCells c = new PhaseCells();
         c.grid(grid[0], grid[1]);
         Face.call(c, name, n);
-        due(name + Arrays.toString(n) + " leaves states", c.refused(4), TELLS_STATES.contains(name) ? 2 : 1);
+        due(name + Arrays.toString(n) + " leaves states", c.refused(4), TOLD_S.contains(name) ? 2 : 1);
     }
 
     /** It has changed what told(99), a refused call that can change nothing else, has changed, and no more. */
