@@ -74,4 +74,16 @@ abstract class Checks {
         }
         return c;
     }
+
+    /** Each rate of a cell of exposure 0 as an echo of its own distance would leave it. */
+    static void layEchoes(PhaseCells c, int x, int y, int... d) {
+        for (int k = 0; k < 3; k++) {
+            PhaseCells help = new PhaseCells();
+            help.wave(k, c.told(2 + k));
+            help.echo(0, 0, 0, d[k], 600);
+            for (int i = 0; i < 4; i++) {
+                c.sample(0, x, y, k, i, help.raw(0, 0, 0, k, i));
+            }
+        }
+    }
 }
