@@ -104,6 +104,24 @@ public final class FilledEdgesTest extends Checks {
         due("of like glow", filledWith(1, 299, 301, 300), 0);
         due("a half less", filledWith(1, 300, 300, 299), 0);
         due("a half more", filledWith(1, 300, 300, 301), 0);
+        // EDGE 1: one beside it is as bright, the other a half more or less, its weight is 1 / 1.5: 1967 / 1.667
+        for (int half = -1; half <= 1; half += 2) {
+            PhaseCells c = new PhaseCells();
+            c.grid(3, 1);
+            c.sets(4, 1);
+            c.sets(3, 1500);
+            for (int k = 0; k < 3; k++) {
+                c.wave(k, 400 << k);
+            }
+            c.echo(0, 0, 0, 1000, 200);
+            c.echo(0, 2, 0, 1300, 200);
+            c.sample(0, 0, 0, 0, 2, 200 + half);
+            layRate(c, 0, 1, 0, 0, 599, 0, 0, 0);
+            c.sample(0, 1, 0, 1, 0, 1);
+            due("dark", c.mark(0, 1, 0), 2);
+            due("the other as bright yet", c.cell(0, 0, 0, 0), 1000);
+            due("weighed by a half of " + half, c.cell(0, 1, 0, 3), 1180);
+        }
     }
 
     private static void edgeAtTheEndsOfItsRange() {

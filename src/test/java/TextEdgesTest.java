@@ -11,6 +11,7 @@ public final class TextEdgesTest extends Checks {
         howManyFigures();
         blanksAnywhereButInNumbers();
         endsTooEarly();
+        earlierTextsAreForgotten();
         fullTexts();
         readWholeFirst();
         ordersJudgedInTurn();
@@ -119,6 +120,23 @@ public final class TextEdgesTest extends Checks {
             }
         }
         due("whole", does(c, whole), 1);
+    }
+
+    /** A text that ended within a number or an order leaves nothing to the next. */
+    private static void earlierTextsAreForgotten() {
+        String[] earlier = {"g1 1", "g1 1234", "g", "g1", "g1 1;", "g1 1;v0 5", "g9 9;", "x", "g1 12345"};
+        for (String text : earlier) {
+            PhaseCells c = new PhaseCells();
+            does(c, text);
+            due("a figure behind " + text, does(c, "1;"), -10);
+            does(c, text);
+            due("an end behind " + text, does(c, ";"), -10);
+            does(c, text);
+            due("nothing behind " + text, does(c, ""), -10);
+            does(c, text);
+            due("an order behind " + text, does(c, "v1 1234;"), 1);
+            due("its number", c.told(3), 1234);
+        }
     }
 
     private static void fullTexts() {
